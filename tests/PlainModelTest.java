@@ -255,13 +255,25 @@ public final class PlainModelTest {
         }
 
         String one(int deep) {
-            if (chance.oneIn(60)) {
-                return "!(!(!(!" + test() + ")))".repeat(1);
+            if (chance.oneIn(40)) {
+                return deep();
             }
             if (deep > 0 && chance.oneIn(4)) {
                 return chance.oneIn(2) ? "!" + one(deep - 1) : "(" + either(deep - 1) + ")";
             }
             return test();
+        }
+
+        /** About as many of ! and ( as may be open. */
+        String deep() {
+            StringBuilder text = new StringBuilder();
+            int brackets = 0;
+            for (int open = 3 + chance.below(4); open > 0; open--) {
+                boolean bracket = chance.oneIn(2);
+                text.append(bracket ? '(' : '!');
+                brackets += bracket ? 1 : 0;
+            }
+            return text.append(test()).append(")".repeat(brackets)).toString();
         }
 
         String test() {
