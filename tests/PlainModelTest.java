@@ -7,7 +7,7 @@ import java.util.List;
  * a model that does what the document says in the slowest and plainest way: nothing is remembered or cut short.
  */
 public final class PlainModelTest {
-    private static final int RUNS = 260, CALLS = 512;
+    private static final int RUNS = 260, CALLS = 512, LONGEST_TEXT = 104;
 
     public static void main(String[] args) {
         int wrong = 0;
@@ -140,7 +140,7 @@ public final class PlainModelTest {
             int a = someMan(), b = someMan(), c = near(9);
             switch (chance.below(34)) {
                 case 0: { int s = near(127); return same("feed", x.feed(s), m.feed(s), s); }
-                case 1: return chance.oneIn(3) ? tape() : same("house", x.house(), m.house());
+                case 1: return chance.oneIn(3) && history.size() + LONGEST_TEXT < CALLS ? tape() : same("house", x.house(), m.house());
                 case 2: return man();
                 case 3: case 4: { int w = near(6); return same("of", x.of(a, w), m.of(a, w), a, w); }
                 case 5: return same("pull", x.pull(a, b), m.pull(a, b), a, b);
@@ -222,7 +222,7 @@ public final class PlainModelTest {
             for (int bad = chance.below(3) - 1; bad > 0 && text.length() > 0; bad -= chance.below(2)) {
                 spoil(text);
             }
-            return text.length() > 104 ? text.substring(0, 104) : text.toString();
+            return text.substring(0, Math.min(text.length(), LONGEST_TEXT));
         }
 
         void spoil(StringBuilder text) {
