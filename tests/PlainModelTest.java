@@ -1,6 +1,7 @@
 import java.util.ArrayList;
 import java.util.Arrays;
 import java.util.List;
+import java.util.regex.Pattern;
 
 /**
  * Random runs of calls (by a sum of its own, so that they are always the same), each answer held against that of
@@ -333,6 +334,7 @@ public final class PlainModelTest {
         List<Integer> trace = new ArrayList<>();
         Model image;
         String parsed = "";
+        int reach = 9;
         List<Clause> clauses = new ArrayList<>();
         List<Integer> weights = new ArrayList<>();
 
@@ -418,8 +420,10 @@ public final class PlainModelTest {
                 case 1: return reach();
                 case 2: return unlike(now());
                 case 3: {
+                    Still still = now();
                     for (int n = 0; n <= 60; n++) {
-                        if (unlike(ahead(now(), n)) <= 1) return n;
+                        if (unlike(still) <= 1) return n;
+                        still = ahead(still, 1);
                     }
                     return -5;
                 }
@@ -453,8 +457,10 @@ public final class PlainModelTest {
         }
 
         int soonest(Still from, int man, int state) {
+            Still still = from;
             for (int n = 0; n <= 20; n++) {
-                if (ahead(from, n).states[man] == state) return n;
+                if (still.states[man] == state) return n;
+                still = ahead(still, 1);
             }
             return 1000;
         }
@@ -731,20 +737,19 @@ public final class PlainModelTest {
         }
 
         int reach() {
-            int reach = 9;
-            for (String clause : holding().split(";")) {
-                if (clause.startsWith("reach")) reach = Integer.parseInt(clause.substring(6));
-            }
+            parse();
             return reach;
         }
 
         void parse() {
             if (parsed.equals(holding())) return;
             parsed = holding();
+            reach = 9;
             clauses.clear();
             weights.clear();
             for (String clause : parsed.split(";")) {
                 String[] parts = clause.split(" ");
+                if (parts[0].equals("reach")) reach = Integer.parseInt(parts[1]);
                 if (parts.length == 3) {
                     clauses.add(Grammar.meaning(parts[2]));
                     weights.add(Integer.parseInt(parts[1]) * (parts[0].equals("heed") ? 1 : -1));
@@ -788,11 +793,13 @@ public final class PlainModelTest {
 
         int leader(Still still, int i) {
             int best = -5;
-            int reach = reach();
+            int most = 1;
             for (int j = still.states.length - 1; j >= 0 && !still.away[i]; j--) {
-                boolean able = j != i && !still.away[j] && Math.abs(still.rooms[i] - still.rooms[j]) <= reach;
-                if (able && pull(still, i, j) > 0 && (best < 0 || pull(still, i, j) >= pull(still, i, best))) {
+                boolean able = j != i && !still.away[j] && Math.abs(still.rooms[i] - still.rooms[j]) <= reach();
+                int pull = able ? pull(still, i, j) : 0;
+                if (pull >= most) {
                     best = j;
+                    most = pull;
                 }
             }
             return best;
@@ -914,13 +921,16 @@ public final class PlainModelTest {
     /** A house is judged whole, by splitting it; a FAULT is found by trying all that could still come. */
     static final class Grammar {
         static final String NUMBER = "(0|[1-9][0-9]?)";
+        static final Pattern REACH = Pattern.compile("reach " + NUMBER);
+        static final Pattern WEIGHED = Pattern.compile("(?s)(heed|shun) " + NUMBER + " .*");
+        static final Pattern TEST = Pattern.compile("[pqksdt][<=>]" + NUMBER);
 
         static boolean isHouse(String text) {
             String[] clauses = text.split(";", -1);
             if (clauses.length > 10) return false;
             for (String clause : clauses) {
-                boolean reach = clause.matches("reach " + NUMBER);
-                boolean weighed = clause.matches("(?s)(heed|shun) " + NUMBER + " .*")
+                boolean reach = REACH.matcher(clause).matches();
+                boolean weighed = WEIGHED.matcher(clause).matches()
                     && isEither(clause.substring(clause.indexOf(' ', 5) + 1), 0);
                 if (!reach && !weighed) return false;
             }
@@ -959,7 +969,7 @@ public final class PlainModelTest {
             if (text.startsWith("(")) {
                 return open < 5 && text.endsWith(")") && isEither(text.substring(1, text.length() - 1), open + 1);
             }
-            return text.matches("[pqksdt][<=>]" + NUMBER);
+            return TEST.matcher(text).matches();
         }
 
         static Clause meaning(String text) {

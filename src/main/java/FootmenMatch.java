@@ -1092,7 +1092,7 @@ public final class FootmenMatch {
             if (owner < 0 || depth > DEEPEST_BODY) {
                 return 0;
             }
-            int body = BODIES[act * KINDS + owner];
+            int body = bodyOf(act, owner);
             note(body);
             return answer(body, kindAbove(owner), x, depth + 1);
         }
@@ -1116,16 +1116,18 @@ public final class FootmenMatch {
         private static int ownerOf(int act, int from) {
             int at = from;
             for (int up = 0; up < KINDS && at >= 0; up++) {
-                int place = act * KINDS + at;
-                if (place < 0 || place >= BODIES.length) {
-                    return -1;
-                }
-                if (BODIES[place] != 0) {
+                if (bodyOf(act, at) != 0) {
                     return at;
                 }
                 at = kindAbove(at);
             }
             return -1;
+        }
+
+        /** The body that a KIND has of its own for the act, 0 for none. */
+        private static int bodyOf(int act, int owner) {
+            int place = act * KINDS + owner;
+            return place >= 0 && place < BODIES.length ? BODIES[place] : 0;
         }
 
         private void note(int body) {
